@@ -1,0 +1,51 @@
+/** Counts wrong answers for the tests, and tells each one. */
+final class Check {
+    interface Call {
+        int answer();
+    }
+
+    interface Act {
+        void run();
+    }
+
+    private static int calls = 0;
+    private static int wrong = 0;
+
+    private Check() {
+    }
+
+    static void due(String what, Object got, Object want) {
+        calls++;
+        if (!want.equals(got)) {
+            wrong++;
+            System.out.println(what + " answered " + got + ", due is " + want);
+        }
+    }
+
+    /** The answer as a text, or the name of the very class that was thrown. */
+    static String answerOf(Call call) {
+        try {
+            return Integer.toString(call.answer());
+        } catch (RuntimeException e) {
+            return "throws." + e.getClass().getSimpleName();
+        }
+    }
+
+    static String answerOf(Act act) {
+        return answerOf((Call) () -> {
+            act.run();
+            return 0;
+        });
+    }
+
+    static void refused(String what, Act act, Class<? extends RuntimeException> want) {
+        due(what, answerOf(act), "throws." + want.getSimpleName());
+    }
+
+    static void end() {
+        System.out.println(wrong == 0 ? calls + " answers are as due" : wrong + " answers are not as due");
+        if (wrong != 0 || calls == 0) {
+            System.exit(1);
+        }
+    }
+}
