@@ -22,12 +22,16 @@ final class Check {
         }
     }
 
-    /** The answer as a text, or the name of the very class that was thrown. */
+    /**
+     * The answer as a text, or the name of the very class that was thrown. What the machine throws
+     * for a wrong index is told apart by its text: the class has to look before it uses an index.
+     */
     static String answerOf(Call call) {
         try {
             return Integer.toString(call.answer());
         } catch (RuntimeException e) {
-            return "throws." + e.getClass().getSimpleName();
+            boolean byMachine = e.getMessage() == null || e.getMessage().startsWith("Index ");
+            return (byMachine ? "machine." : "throws.") + e.getClass().getSimpleName();
         }
     }
 

@@ -37,10 +37,11 @@ public final class FaceTest {
         Check.due("constructors", face.getDeclaredConstructors().length, 1);
         Constructor<?> made = face.getDeclaredConstructors()[0];
         Check.due("constructor", names(made.getParameterTypes()) + Modifier.toString(made.getModifiers()), "int,intpublic");
-        lookAtPrivateNames(face);
+        lookAtPrivateNames(face, publicNames(face));
         lookAtFields(face);
         for (Class<?> inside : face.getDeclaredClasses()) {
             Check.due(inside + " is static", Modifier.isStatic(inside.getModifiers()), true);
+            lookAtPrivateNames(inside, publicNames(face));
             lookAtStaticFields(inside);
         }
         Check.end();
@@ -57,16 +58,20 @@ public final class FaceTest {
         return sorted(found);
     }
 
-    private static void lookAtPrivateNames(Class<?> face) {
+    private static Set<String> publicNames(Class<?> face) {
         Set<String> shown = new HashSet<>();
         for (Method m : face.getDeclaredMethods()) {
             if (Modifier.isPublic(m.getModifiers())) {
                 shown.add(m.getName());
             }
         }
-        for (Method m : face.getDeclaredMethods()) {
-            if (Modifier.isPrivate(m.getModifiers())) {
-                Check.due("private " + m.getName() + " has a public one's name", shown.contains(m.getName()), false);
+        return shown;
+    }
+
+    private static void lookAtPrivateNames(Class<?> of, Set<String> shown) {
+        for (Method m : of.getDeclaredMethods()) {
+            if (!Modifier.isPublic(m.getModifiers())) {
+                Check.due(m.getName() + " has a public method's name", shown.contains(m.getName()), false);
             }
         }
     }
