@@ -10,6 +10,9 @@ final class Check {
 
     private static int calls = 0;
     private static int wrong = 0;
+    private static int sentences = 0;
+    private static String sentence = "";
+    private static int callsBefore = 0;
 
     private Check() {
     }
@@ -18,7 +21,23 @@ final class Check {
         calls++;
         if (!want.equals(got)) {
             wrong++;
-            System.out.println(what + " answered " + got + ", due is " + want);
+            System.out.println((sentence.isEmpty() ? "" : "\"" + sentence + "\": ")
+                    + what + " answered " + got + ", due is " + want);
+        }
+    }
+
+    /** The document's words that the answers from here on test; each of them needs an answer. */
+    static void sentence(String words) {
+        endSentence();
+        sentences++;
+        sentence = words;
+        callsBefore = calls;
+    }
+
+    private static void endSentence() {
+        if (!sentence.isEmpty() && calls == callsBefore) {
+            wrong++;
+            System.out.println("\"" + sentence + "\" has no test");
         }
     }
 
@@ -47,7 +66,9 @@ final class Check {
     }
 
     static void end() {
-        System.out.println(wrong == 0 ? calls + " answers are as due" : wrong + " answers are not as due");
+        endSentence();
+        String of = sentences == 0 ? "" : ", for " + sentences + " sentences";
+        System.out.println(wrong == 0 ? calls + " answers are as due" + of : wrong + " answers are not as due");
         if (wrong != 0 || calls == 0) {
             System.exit(1);
         }

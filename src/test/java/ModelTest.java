@@ -27,10 +27,11 @@ public final class ModelTest {
     }
 
     private static void blendingOfAllBytes() {
-        BlendRows rows = new BlendRows(1, 1);
         for (int mode = 0; mode <= 11; mode++) {
             long differ = 0;
             for (int b = 0; b < 256; b++) {
+                // An object is good for 512 calls.
+                BlendRows rows = new BlendRows(1, 1);
                 for (int s = 0; s < 256; s++) {
                     differ += rows.separable(mode, b, s) == Model.bytes(mode, b, s) ? 0 : 1;
                 }

@@ -32,74 +32,45 @@ public final class PromiseTest {
         Check.end();
     }
 
-    private static BlendRows grey(int v) {
-        BlendRows rows = new BlendRows(1, 1);
-        paint(rows, v, v, v);
-        rows.mark(0, 255, 255);
-        return rows;
-    }
-
-    private static void paint(BlendRows rows, int r, int g, int b) {
-        rows.colour(0, r);
-        rows.colour(1, g);
-        rows.colour(2, b);
-    }
-
-    private static String colourAt(BlendRows rows, int x, int y) {
-        return rows.point(x, y, 0) + " " + rows.point(x, y, 1) + " " + rows.point(x, y, 2);
-    }
-
-    private static String alphasAt(BlendRows rows, int x, int y) {
-        return rows.alpha(x, y, 0) + " " + rows.alpha(x, y, 1) + " " + rows.alpha(x, y, 2);
-    }
-
-    private static String toldAll(BlendRows rows) {
-        StringBuilder all = new StringBuilder();
-        for (int what = 0; what < 6; what++) {
-            all.append(rows.told(what)).append(what < 5 ? " " : "");
-        }
-        return all.toString();
-    }
-
     private static void promise1NewObject() {
         BlendRows rows = new BlendRows(3, 2);
-        Check.due("1: told", toldAll(rows), "3 2 1 6 0 0");
+        Check.due("1: told", Look.toldAll(rows), "3 2 1 6 0 0");
         for (int x = 0; x < 3; x++) {
             for (int y = 0; y < 2; y++) {
-                Check.due("1: colour", colourAt(rows, x, y), "0 0 0");
-                Check.due("1: alphas", alphasAt(rows, x, y), "0 0 0");
+                Check.due("1: colour", Look.colourAt(rows, x, y), "0 0 0");
+                Check.due("1: alphas", Look.alphasAt(rows, x, y), "0 0 0");
                 Check.due("1: mask", rows.alpha(x, y, 3), 255);
                 Check.due("1: cover", rows.alpha(x, y, 4), 255);
                 Check.due("1: paper", rows.paper(x, y, 1), 255);
             }
         }
         Check.due("1: colour 0 is set, and the cover is there", rows.mark(0, 255, 255), 6);
-        Check.due("1: colour 0 is set", colourAt(rows, 2, 1), "0 0 0");
+        Check.due("1: colour 0 is set", Look.colourAt(rows, 2, 1), "0 0 0");
         Check.due("1: colour 0 is set: paper", rows.paper(2, 1, 0), 0);
-        Check.due("1: least", toldAll(new BlendRows(0, Integer.MIN_VALUE)), "1 1 1 6 0 0");
-        Check.due("1: most", toldAll(new BlendRows(13, Integer.MAX_VALUE)), "12 12 1 6 0 0");
-        Check.due("1: edges", toldAll(new BlendRows(12, 1)), "12 1 1 6 0 0");
+        Check.due("1: least", Look.toldAll(new BlendRows(0, Integer.MIN_VALUE)), "1 1 1 6 0 0");
+        Check.due("1: most", Look.toldAll(new BlendRows(13, Integer.MAX_VALUE)), "12 12 1 6 0 0");
+        Check.due("1: edges", Look.toldAll(new BlendRows(12, 1)), "12 1 1 6 0 0");
         Check.due("1: all of the largest page", new BlendRows(12, 12).mark(0, 1, 255), 144);
     }
 
     private static void promise2Told() {
         BlendRows rows = new BlendRows(5, 4);
         rows.mark(0, 0, 0);
-        Check.due("2: a mark that nobody sees is made", toldAll(rows), "5 4 1 6 0 1");
+        Check.due("2: a mark that nobody sees is made", Look.toldAll(rows), "5 4 1 6 0 1");
         rows.group(false, false);
-        Check.due("2: depth", toldAll(rows), "5 4 2 6 0 1");
+        Check.due("2: depth", Look.toldAll(rows), "5 4 2 6 0 1");
         rows.end(0, 0);
-        Check.due("2: an ended group counts", toldAll(rows), "5 4 1 6 0 2");
+        Check.due("2: an ended group counts", Look.toldAll(rows), "5 4 1 6 0 2");
         rows.group(false, false);
         rows.mask(1, false);
-        Check.due("2: a mask does not count", toldAll(rows), "5 4 1 6 1 2");
+        Check.due("2: a mask does not count", Look.toldAll(rows), "5 4 1 6 1 2");
         rows.bound(1);
         rows.group(false, false);
         rows.end(0, 255);
-        Check.due("2: a flat group does not count", toldAll(rows), "5 4 1 1 1 2");
+        Check.due("2: a flat group does not count", Look.toldAll(rows), "5 4 1 1 1 2");
         rows.group(false, false);
         rows.mark(0, 255, 255);
-        Check.due("2: a mark within a flat group counts", toldAll(rows), "5 4 2 1 1 3");
+        Check.due("2: a mark within a flat group counts", Look.toldAll(rows), "5 4 2 1 1 3");
         Check.refused("2: told(-1)", () -> rows.told(-1), ARGUMENT);
         Check.refused("2: told(6)", () -> rows.told(6), ARGUMENT);
         Check.refused("2: told(least)", () -> rows.told(Integer.MIN_VALUE), ARGUMENT);
@@ -125,31 +96,31 @@ public final class PromiseTest {
         rows.mark(0, 255, 255);
         rows.end(0, 255);
         Check.due("3: groups that are there stay", rows.told(5), 2);
-        Check.due("3: groups that are there stay", colourAt(rows, 0, 0), "9 0 0");
+        Check.due("3: groups that are there stay", Look.colourAt(rows, 0, 0), "9 0 0");
         rows.end(0, 255);
-        Check.due("3: groups that are there stay", colourAt(rows, 0, 0), "9 0 0");
+        Check.due("3: groups that are there stay", Look.colourAt(rows, 0, 0), "9 0 0");
         Check.due("3: groups that are there stay", rows.told(5), 3);
     }
 
     private static void promise4Group() {
-        BlendRows rows = grey(100);
+        BlendRows rows = Look.grey(100);
         Check.due("4: depth then", rows.group(false, false), 2);
-        Check.due("4: begins with the colour around it", colourAt(rows, 0, 0), "100 100 100");
-        Check.due("4: own alpha and shape are 0 at first", alphasAt(rows, 0, 0), "0 0 255");
+        Check.due("4: begins with the colour around it", Look.colourAt(rows, 0, 0), "100 100 100");
+        Check.due("4: own alpha and shape are 0 at first", Look.alphasAt(rows, 0, 0), "0 0 255");
         // MUL(100, 100) = 10127 / 255
         rows.mark(1, 255, 255);
-        Check.due("4: blends with its backdrop", colourAt(rows, 0, 0), "39 39 39");
-        Check.due("4: own alpha", alphasAt(rows, 0, 0), "255 255 255");
+        Check.due("4: blends with its backdrop", Look.colourAt(rows, 0, 0), "39 39 39");
+        Check.due("4: own alpha", Look.alphasAt(rows, 0, 0), "255 255 255");
         Check.due("4: depth then", rows.group(true, false), 3);
-        Check.due("4: alone", colourAt(rows, 0, 0), "0 0 0");
-        Check.due("4: alone", alphasAt(rows, 0, 0), "0 0 0");
+        Check.due("4: alone", Look.colourAt(rows, 0, 0), "0 0 0");
+        Check.due("4: alone", Look.alphasAt(rows, 0, 0), "0 0 0");
         rows.mark(1, 255, 255);
-        Check.due("4: alone it has nothing to blend with", colourAt(rows, 0, 0), "100 100 100");
+        Check.due("4: alone it has nothing to blend with", Look.colourAt(rows, 0, 0), "100 100 100");
         for (int depth = 4; depth <= 40; depth++) {
             Check.due("4: depth then", rows.group(true, true), depth);
         }
         Check.refused("4: deeper than 40", () -> rows.group(true, true), UNSUPPORTED);
-        Check.due("4: deeper than 40 changes nothing", toldAll(rows), "1 1 40 6 0 3");
+        Check.due("4: deeper than 40 changes nothing", Look.toldAll(rows), "1 1 40 6 0 3");
         for (int depth = 39; depth >= 1; depth--) {
             Check.due("4: all of them end", rows.end(0, 255), depth);
         }
@@ -159,130 +130,130 @@ public final class PromiseTest {
     private static void promise4KnockingOut() {
         BlendRows rows = new BlendRows(1, 1);
         rows.group(true, true);
-        paint(rows, 200, 0, 0);
+        Look.paint(rows, 200, 0, 0);
         rows.mark(0, 255, 255);
-        paint(rows, 0, 0, 100);
+        Look.paint(rows, 0, 0, 100);
         rows.mark(0, 255, 128);
-        Check.due("4: knocks out", colourAt(rows, 0, 0), "0 0 100");
-        Check.due("4: knocks out", alphasAt(rows, 0, 0), "128 255 128");
-        paint(rows, 0, 50, 0);
+        Check.due("4: knocks out", Look.colourAt(rows, 0, 0), "0 0 100");
+        Check.due("4: knocks out", Look.alphasAt(rows, 0, 0), "128 255 128");
+        Look.paint(rows, 0, 50, 0);
         rows.mark(0, 128, 255);
         // G = (127 * 128 + 255 * 128 + 127) / 255 = 49023 / 255, and F stays whole.
-        Check.due("4: knocks out by shape", alphasAt(rows, 0, 0), "192 255 192");
+        Check.due("4: knocks out by shape", Look.alphasAt(rows, 0, 0), "192 255 192");
         // green: (128 * 255 * 50 + 24480) / 48960; blue: (127 * 128 * 100 + 24480) / 48960
-        Check.due("4: knocks out by shape", colourAt(rows, 0, 0), "0 33 33");
+        Check.due("4: knocks out by shape", Look.colourAt(rows, 0, 0), "0 33 33");
         rows.end(0, 255);
 
-        BlendRows onGrey = grey(100);
+        BlendRows onGrey = Look.grey(100);
         onGrey.group(false, true);
-        paint(onGrey, 255, 255, 255);
+        Look.paint(onGrey, 255, 255, 255);
         onGrey.mark(0, 255, 255);
-        paint(onGrey, 100, 100, 100);
+        Look.paint(onGrey, 100, 100, 100);
         onGrey.mark(1, 255, 255);
-        Check.due("4: each mark meets the backdrop", colourAt(onGrey, 0, 0), "39 39 39");
+        Check.due("4: each mark meets the backdrop", Look.colourAt(onGrey, 0, 0), "39 39 39");
         onGrey.mark(1, 255, 0);
-        Check.due("4: shape without alpha shows the backdrop", colourAt(onGrey, 0, 0), "100 100 100");
-        Check.due("4: shape without alpha", alphasAt(onGrey, 0, 0), "0 255 255");
+        Check.due("4: shape without alpha shows the backdrop", Look.colourAt(onGrey, 0, 0), "100 100 100");
+        Check.due("4: shape without alpha", Look.alphasAt(onGrey, 0, 0), "0 255 255");
 
         BlendRows plain = new BlendRows(1, 1);
         plain.group(true, false);
-        paint(plain, 200, 0, 0);
+        Look.paint(plain, 200, 0, 0);
         plain.mark(0, 255, 255);
-        paint(plain, 0, 0, 100);
+        Look.paint(plain, 0, 0, 100);
         plain.mark(0, 255, 128);
         // red: (127 * 255 * 200 + 32512) / 65025; blue: (128 * 255 * 100 + 32512) / 65025
-        Check.due("4: does not knock out", colourAt(plain, 0, 0), "100 0 50");
-        Check.due("4: does not knock out", alphasAt(plain, 0, 0), "255 255 255");
+        Check.due("4: does not knock out", Look.colourAt(plain, 0, 0), "100 0 50");
+        Check.due("4: does not knock out", Look.alphasAt(plain, 0, 0), "255 255 255");
     }
 
     private static void promise4FlatGroups() {
-        BlendRows rows = grey(100);
+        BlendRows rows = Look.grey(100);
         rows.bound(2);
         rows.group(true, false);
         Check.due("4: flat ones are counted", rows.group(true, true), 3);
         rows.colour(0, 7);
         rows.mark(0, 255, 255);
-        Check.due("4: marks reach the group below a flat one", colourAt(rows, 0, 0), "7 100 100");
+        Check.due("4: marks reach the group below a flat one", Look.colourAt(rows, 0, 0), "7 100 100");
         rows.bound(6);
         Check.due("4: within a flat one", rows.group(true, false), 4);
-        Check.due("4: within a flat one all are flat", colourAt(rows, 0, 0), "7 100 100");
+        Check.due("4: within a flat one all are flat", Look.colourAt(rows, 0, 0), "7 100 100");
         Check.due("4: a flat one ends", rows.end(0, 0), 3);
         Check.due("4: a flat one as a mask", rows.mask(1, true), 2);
-        Check.due("4: a flat one does nothing else", toldAll(rows), "1 1 2 6 0 2");
-        Check.due("4: a flat one does nothing else", colourAt(rows, 0, 0), "7 100 100");
+        Check.due("4: a flat one does nothing else", Look.toldAll(rows), "1 1 2 6 0 2");
+        Check.due("4: a flat one does nothing else", Look.colourAt(rows, 0, 0), "7 100 100");
         rows.group(true, false);
-        Check.due("4: real again", colourAt(rows, 0, 0), "0 0 0");
+        Check.due("4: real again", Look.colourAt(rows, 0, 0), "0 0 0");
         rows.end(0, 255);
         Check.due("4: real again", rows.told(5), 3);
 
         BlendRows deep = new BlendRows(1, 1);
-        paint(deep, 5, 5, 5);
+        Look.paint(deep, 5, 5, 5);
         for (int depth = 2; depth <= 6; depth++) {
             deep.group(true, false);
         }
         deep.mark(0, 255, 255);
         deep.group(true, false);
-        Check.due("4: depth 7 is flat", colourAt(deep, 0, 0), "5 5 5");
+        Check.due("4: depth 7 is flat", Look.colourAt(deep, 0, 0), "5 5 5");
         deep.end(0, 255);
         Check.due("4: depth 7 is flat", deep.told(5), 1);
         for (int depth = 5; depth >= 1; depth--) {
             deep.end(0, 255);
-            Check.due("4: depth 6 is real", colourAt(deep, 0, 0), "5 5 5");
+            Check.due("4: depth 6 is real", Look.colourAt(deep, 0, 0), "5 5 5");
         }
         Check.due("4: depth 6 is real", deep.told(5), 6);
     }
 
     private static void promise5End() {
-        BlendRows rows = grey(200);
+        BlendRows rows = Look.grey(200);
         rows.group(true, false);
-        paint(rows, 100, 255, 0);
+        Look.paint(rows, 100, 255, 0);
         rows.mark(0, 128, 255);
         Check.due("5: the depth then", rows.end(1, 128), 1);
         // The element has f 128 and a = MUL(128, 128) = 64. MUL(200, 100) is 78.
         // red: (127 * 255 * 200 + 64 * 255 * 200 + 64 * 255 * 78 + 32512) / 65025
-        Check.due("5: put by its mode and opacity", colourAt(rows, 0, 0), "169 200 150");
-        Check.due("5: an opaque page", alphasAt(rows, 0, 0), "255 255 255");
+        Check.due("5: put by its mode and opacity", Look.colourAt(rows, 0, 0), "169 200 150");
+        Check.due("5: an opaque page", Look.alphasAt(rows, 0, 0), "255 255 255");
 
         BlendRows bare = new BlendRows(1, 1);
         bare.group(true, false);
-        paint(bare, 100, 255, 0);
+        Look.paint(bare, 100, 255, 0);
         bare.mark(0, 128, 255);
         bare.end(1, 128);
-        Check.due("5: on nothing", colourAt(bare, 0, 0), "100 255 0");
-        Check.due("5: on nothing", alphasAt(bare, 0, 0), "64 128 64");
+        Check.due("5: on nothing", Look.colourAt(bare, 0, 0), "100 255 0");
+        Check.due("5: on nothing", Look.alphasAt(bare, 0, 0), "64 128 64");
         bare.group(false, false);
         bare.end(0, 255);
-        Check.due("5: an empty group changes nothing", alphasAt(bare, 0, 0), "64 128 64");
+        Check.due("5: an empty group changes nothing", Look.alphasAt(bare, 0, 0), "64 128 64");
     }
 
     private static void promise5BackdropLeavesTheResult() {
-        BlendRows rows = grey(100);
+        BlendRows rows = Look.grey(100);
         rows.group(false, false);
-        paint(rows, 200, 200, 200);
+        Look.paint(rows, 200, 200, 200);
         rows.mark(0, 255, 128);
         // (127 * 255 * 100 + 128 * 255 * 200 + 32512) / 65025
-        Check.due("5: within", colourAt(rows, 0, 0), "150 150 150");
+        Check.due("5: within", Look.colourAt(rows, 0, 0), "150 150 150");
         rows.end(1, 255);
         // The result is 150 + 50 * 32385 / 32640 = 199; MUL(100, 199) = 78.
         // (127 * 255 * 100 + 128 * 255 * 78 + 32512) / 65025
-        Check.due("5: the backdrop is taken out", colourAt(rows, 0, 0), "89 89 89");
+        Check.due("5: the backdrop is taken out", Look.colourAt(rows, 0, 0), "89 89 89");
 
-        BlendRows low = grey(200);
+        BlendRows low = Look.grey(200);
         low.group(false, false);
-        paint(low, 100, 100, 100);
+        Look.paint(low, 100, 100, 100);
         low.mark(0, 255, 128);
         // 150 - 49.6 toward 0 is 101, and MUL(101, 128) = 51; downward it would be 50.
         low.mask(2, false);
         Check.due("5: that quotient goes toward 0", low.alpha(0, 0, 3), 51);
 
-        BlendRows thin = grey(0);
+        BlendRows thin = Look.grey(0);
         thin.group(false, false);
-        paint(thin, 255, 255, 255);
+        Look.paint(thin, 255, 255, 255);
         thin.mark(0, 255, 1);
         // C is 1, and 1 + 1 * 255 * 254 / 255 = 255.
-        Check.due("5: thin", colourAt(thin, 0, 0), "1 1 1");
+        Check.due("5: thin", Look.colourAt(thin, 0, 0), "1 1 1");
         thin.end(5, 255);
-        Check.due("5: thin", colourAt(thin, 0, 0), "1 1 1");
+        Check.due("5: thin", Look.colourAt(thin, 0, 0), "1 1 1");
     }
 
     private static void promise5EndRefuses() {
@@ -297,14 +268,14 @@ public final class PromiseTest {
         for (int wrong : new int[] {-1, 256, Integer.MIN_VALUE, Integer.MAX_VALUE}) {
             Check.refused("5: opacity " + wrong, () -> rows.end(0, wrong), ARGUMENT);
         }
-        Check.due("5: refused ones change nothing", toldAll(rows), "1 1 2 6 0 1");
+        Check.due("5: refused ones change nothing", Look.toldAll(rows), "1 1 2 6 0 1");
         rows.bound(1);
         rows.group(true, false);
         Check.refused("5: a flat one too", () -> rows.end(16, 255), ARGUMENT);
         Check.due("5: a flat one too", rows.told(2), 3);
         Check.due("5: mode 15, opacity 0", rows.end(15, 0), 2);
         Check.due("5: mode 15, opacity 0", rows.end(15, 0), 1);
-        Check.due("5: no opacity, but shape", alphasAt(rows, 0, 0), "0 255 0");
+        Check.due("5: no opacity, but shape", Look.alphasAt(rows, 0, 0), "0 255 0");
     }
 
     private static void promise6Mask() {
@@ -315,13 +286,13 @@ public final class PromiseTest {
         rows.cover(1, 0, 255);
         Check.due("6: the depth then", rows.mask(1, false), 1);
         Check.due("6: its G", rows.alpha(0, 0, 3) + " " + rows.alpha(1, 0, 3), "128 0");
-        Check.due("6: put nowhere", alphasAt(rows, 0, 0), "0 0 0");
+        Check.due("6: put nowhere", Look.alphasAt(rows, 0, 0), "0 0 0");
         Check.due("6: a mask is there", rows.told(4), 1);
-        paint(rows, 9, 9, 9);
+        Look.paint(rows, 9, 9, 9);
         Check.due("6: the mask leaves one point", rows.mark(0, 255, 100), 1);
         // MUL(100, 128) = 50; the shape is whole.
-        Check.due("6: the mask leaves that", alphasAt(rows, 0, 0), "50 255 50");
-        Check.due("6: the mask leaves nothing", alphasAt(rows, 1, 0), "0 255 0");
+        Check.due("6: the mask leaves that", Look.alphasAt(rows, 0, 0), "50 255 50");
+        Check.due("6: the mask leaves nothing", Look.alphasAt(rows, 1, 0), "0 255 0");
         rows.group(true, false);
         rows.unmask();
         rows.mark(0, 255, 200);
@@ -330,7 +301,7 @@ public final class PromiseTest {
 
         BlendRows lum = new BlendRows(1, 1);
         lum.group(true, false);
-        paint(lum, 100, 200, 50);
+        Look.paint(lum, 100, 200, 50);
         lum.mark(0, 255, 128);
         lum.mask(2, false);
         // MUL by 128: 50, 100, 25; (30 * 50 + 59 * 100 + 11 * 25) / 100
@@ -349,9 +320,9 @@ public final class PromiseTest {
         ended.mask(1, false);
         ended.group(true, false);
         ended.mark(0, 255, 255);
-        Check.due("6: marks within a group meet the mask", alphasAt(ended, 0, 0), "128 255 128");
+        Check.due("6: marks within a group meet the mask", Look.alphasAt(ended, 0, 0), "128 255 128");
         ended.end(0, 255);
-        Check.due("6: groups that end meet it too", alphasAt(ended, 0, 0), "64 255 64");
+        Check.due("6: groups that end meet it too", Look.alphasAt(ended, 0, 0), "64 255 64");
     }
 
     private static void promise6MaskRefuses() {
@@ -362,12 +333,12 @@ public final class PromiseTest {
         for (int wrong : new int[] {0, 3, -1, Integer.MIN_VALUE, Integer.MAX_VALUE}) {
             Check.refused("6: kind " + wrong, () -> rows.mask(wrong, true), ARGUMENT);
         }
-        Check.due("6: refused ones change nothing", toldAll(rows), "1 1 2 6 0 0");
+        Check.due("6: refused ones change nothing", Look.toldAll(rows), "1 1 2 6 0 0");
         rows.bound(1);
         rows.group(true, false);
         Check.refused("6: a flat one too", () -> rows.mask(3, true), ARGUMENT);
         Check.due("6: of a flat one", rows.mask(2, true), 2);
-        Check.due("6: of a flat one nothing else", toldAll(rows), "1 1 2 1 0 0");
+        Check.due("6: of a flat one nothing else", Look.toldAll(rows), "1 1 2 1 0 0");
     }
 
     private static void promise7Unmask() {
@@ -381,15 +352,15 @@ public final class PromiseTest {
         Check.due("7: none now", rows.told(4), 0);
         Check.due("7: its byte", rows.alpha(0, 0, 3), 255);
         Check.due("7: all passes", rows.mark(0, 255, 255), 1);
-        Check.due("7: all passes", alphasAt(rows, 0, 0), "255 255 255");
+        Check.due("7: all passes", Look.alphasAt(rows, 0, 0), "255 255 255");
     }
 
     private static void promise8Colour() {
         BlendRows rows = new BlendRows(1, 1);
-        paint(rows, 255, 1, 128);
+        Look.paint(rows, 255, 1, 128);
         rows.colour(1, 2);
         rows.mark(0, 255, 255);
-        Check.due("8: the bands that are set", colourAt(rows, 0, 0), "255 2 128");
+        Check.due("8: the bands that are set", Look.colourAt(rows, 0, 0), "255 2 128");
         for (int wrong : new int[] {-1, 256, Integer.MIN_VALUE, Integer.MAX_VALUE}) {
             Check.refused("8: v " + wrong, () -> rows.colour(0, wrong), ARGUMENT);
             Check.refused("8: the first exception", () -> rows.colour(3, wrong), ARGUMENT);
@@ -398,38 +369,38 @@ public final class PromiseTest {
             Check.refused("8: band " + wrong, () -> rows.colour(wrong, 7), INDEX);
         }
         rows.mark(0, 255, 255);
-        Check.due("8: refused ones change nothing", colourAt(rows, 0, 0), "255 2 128");
+        Check.due("8: refused ones change nothing", Look.colourAt(rows, 0, 0), "255 2 128");
     }
 
     private static void promise9Stays() {
-        BlendRows rows = grey(100);
+        BlendRows rows = Look.grey(100);
         rows.stays(1, true);
-        paint(rows, 50, 60, 70);
+        Look.paint(rows, 50, 60, 70);
         rows.mark(0, 255, 255);
-        Check.due("9: an ink stays", colourAt(rows, 0, 0), "50 100 70");
+        Check.due("9: an ink stays", Look.colourAt(rows, 0, 0), "50 100 70");
         rows.group(true, false);
         rows.mark(0, 255, 255);
-        Check.due("9: it stays 0 on nothing", colourAt(rows, 0, 0), "50 0 70");
+        Check.due("9: it stays 0 on nothing", Look.colourAt(rows, 0, 0), "50 0 70");
         rows.stays(0, true);
         rows.end(2, 255);
-        Check.due("9: of groups that end too", colourAt(rows, 0, 0), "50 100 121");
+        Check.due("9: of groups that end too", Look.colourAt(rows, 0, 0), "50 100 121");
         rows.stays(0, false);
         rows.stays(1, false);
         rows.mark(0, 255, 255);
-        Check.due("9: no more", colourAt(rows, 0, 0), "50 60 70");
+        Check.due("9: no more", Look.colourAt(rows, 0, 0), "50 60 70");
         for (int wrong : new int[] {-1, 3, 32, Integer.MIN_VALUE, Integer.MAX_VALUE}) {
             Check.refused("9: band " + wrong, () -> rows.stays(wrong, true), INDEX);
         }
-        paint(rows, 1, 2, 3);
+        Look.paint(rows, 1, 2, 3);
         rows.mark(0, 255, 255);
-        Check.due("9: refused ones change nothing", colourAt(rows, 0, 0), "1 2 3");
+        Check.due("9: refused ones change nothing", Look.colourAt(rows, 0, 0), "1 2 3");
 
-        BlendRows hues = grey(100);
+        BlendRows hues = Look.grey(100);
         hues.stays(0, true);
-        paint(hues, 200, 0, 0);
+        Look.paint(hues, 200, 0, 0);
         hues.mark(14, 255, 255);
         // SETLUM(200 0 0, 100) is 240 40 40: the bands that go are of the whole colour.
-        Check.due("9: the others blend the colour as it is", colourAt(hues, 0, 0), "100 40 40");
+        Check.due("9: the others blend the colour as it is", Look.colourAt(hues, 0, 0), "100 40 40");
     }
 
     private static void promise10Cover() {
@@ -439,8 +410,8 @@ public final class PromiseTest {
         Check.due("10: covers", rows.alpha(2, 1, 4) + " " + rows.alpha(0, 1, 4) + " " + rows.alpha(1, 0, 4), "0 128 255");
         Check.due("10: a mark sees them", rows.mark(0, 128, 255), 5);
         // MUL(128, 128) = 64
-        Check.due("10: a mark sees them", alphasAt(rows, 0, 1), "64 64 64");
-        Check.due("10: a mark sees them", alphasAt(rows, 2, 1), "0 0 0");
+        Check.due("10: a mark sees them", Look.alphasAt(rows, 0, 1), "64 64 64");
+        Check.due("10: a mark sees them", Look.alphasAt(rows, 2, 1), "0 0 0");
         for (int wrong : new int[] {-1, 256, Integer.MIN_VALUE, Integer.MAX_VALUE}) {
             Check.refused("10: v " + wrong, () -> rows.cover(0, 1, wrong), ARGUMENT);
             Check.refused("10: the first exception", () -> rows.cover(3, 1, wrong), ARGUMENT);
@@ -450,62 +421,51 @@ public final class PromiseTest {
             Check.refused("10: y " + wrong, () -> rows.cover(0, wrong, 7), INDEX);
         }
         Check.refused("10: y 2", () -> rows.cover(0, 2, 7), INDEX);
-        Check.due("10: refused ones change nothing", covers(rows), "255 255 255 / 128 255 0 / ");
-    }
-
-    private static String covers(BlendRows rows) {
-        StringBuilder all = new StringBuilder();
-        for (int y = 0; y < rows.told(1); y++) {
-            for (int x = 0; x < rows.told(0); x++) {
-                all.append(rows.alpha(x, y, 4)).append(' ');
-            }
-            all.append("/ ");
-        }
-        return all.toString();
+        Check.due("10: refused ones change nothing", Look.covers(rows), "255 255 255 / 128 255 0 / ");
     }
 
     private static void promise11Fill() {
         BlendRows rows = new BlendRows(3, 3);
         rows.fill(1, 0, 2, 1, 7);
-        Check.due("11: both corners are in it", covers(rows), "255 7 7 / 255 7 7 / 255 255 255 / ");
+        Check.due("11: both corners are in it", Look.covers(rows), "255 7 7 / 255 7 7 / 255 255 255 / ");
         rows.fill(-5, 2, 0, 90, 8);
-        Check.due("11: what the page has", covers(rows), "255 7 7 / 255 7 7 / 8 255 255 / ");
+        Check.due("11: what the page has", Look.covers(rows), "255 7 7 / 255 7 7 / 8 255 255 / ");
         rows.fill(2, 2, 1, 2, 9);
         rows.fill(0, 1, 2, 0, 9);
         rows.fill(3, 0, 5, 5, 9);
         rows.fill(-3, -3, -1, -1, 9);
-        Check.due("11: no points", covers(rows), "255 7 7 / 255 7 7 / 8 255 255 / ");
+        Check.due("11: no points", Look.covers(rows), "255 7 7 / 255 7 7 / 8 255 255 / ");
         rows.fill(1, 1, 1, 1, 0);
-        Check.due("11: one point", covers(rows), "255 7 7 / 255 0 7 / 8 255 255 / ");
+        Check.due("11: one point", Look.covers(rows), "255 7 7 / 255 0 7 / 8 255 255 / ");
         for (int wrong : new int[] {-1, 256, Integer.MIN_VALUE, Integer.MAX_VALUE}) {
             Check.refused("11: v " + wrong, () -> rows.fill(0, 0, 2, 2, wrong), ARGUMENT);
         }
         Check.refused("11: v, no points", () -> rows.fill(5, 5, 6, 6, 256), ARGUMENT);
-        Check.due("11: refused ones change nothing", covers(rows), "255 7 7 / 255 0 7 / 8 255 255 / ");
+        Check.due("11: refused ones change nothing", Look.covers(rows), "255 7 7 / 255 0 7 / 8 255 255 / ");
         rows.fill(Integer.MIN_VALUE, Integer.MIN_VALUE, Integer.MAX_VALUE, Integer.MAX_VALUE, 3);
-        Check.due("11: far corners", covers(rows), "3 3 3 / 3 3 3 / 3 3 3 / ");
+        Check.due("11: far corners", Look.covers(rows), "3 3 3 / 3 3 3 / 3 3 3 / ");
         rows.fill(Integer.MAX_VALUE, 0, Integer.MIN_VALUE, 2, 4);
-        Check.due("11: far corners, none between", covers(rows), "3 3 3 / 3 3 3 / 3 3 3 / ");
+        Check.due("11: far corners, none between", Look.covers(rows), "3 3 3 / 3 3 3 / 3 3 3 / ");
     }
 
     private static void promise12Mark() {
         BlendRows rows = new BlendRows(2, 2);
-        paint(rows, 200, 100, 50);
+        Look.paint(rows, 200, 100, 50);
         Check.due("12: points", rows.mark(0, 255, 128), 4);
-        Check.due("12: on nothing", colourAt(rows, 1, 1), "200 100 50");
-        Check.due("12: on nothing", alphasAt(rows, 1, 1), "128 255 128");
-        paint(rows, 100, 100, 100);
+        Check.due("12: on nothing", Look.colourAt(rows, 1, 1), "200 100 50");
+        Check.due("12: on nothing", Look.alphasAt(rows, 1, 1), "128 255 128");
+        Look.paint(rows, 100, 100, 100);
         rows.cover(0, 0, 0);
         Check.due("12: points", rows.mark(1, 128, 255), 3);
         // f = a = 128, B = 128, G = 49023 / 255 = 192; MUL(200, 100) = 78
         // red: (127 * 128 * 200 + 128 * (127 * 100 + 128 * 78) + 24480) / 48960
-        Check.due("12: half seen through", alphasAt(rows, 1, 1), "192 255 192");
-        Check.due("12: half seen through", colourAt(rows, 1, 1), "126 79 56");
-        Check.due("12: no cover", colourAt(rows, 0, 0), "200 100 50");
+        Check.due("12: half seen through", Look.alphasAt(rows, 1, 1), "192 255 192");
+        Check.due("12: half seen through", Look.colourAt(rows, 1, 1), "126 79 56");
+        Check.due("12: no cover", Look.colourAt(rows, 0, 0), "200 100 50");
         Check.due("12: no shape", rows.mark(0, 0, 255), 0);
         Check.due("12: no opacity", rows.mark(0, 255, 0), 0);
         Check.due("12: an alpha of 0.25 is rounded away", rows.mark(0, 1, 100), 0);
-        Check.due("12: changed nothing", alphasAt(rows, 1, 1), "192 255 192");
+        Check.due("12: changed nothing", Look.alphasAt(rows, 1, 1), "192 255 192");
         for (int wrong : new int[] {-1, 16, Integer.MIN_VALUE, Integer.MAX_VALUE}) {
             Check.refused("12: mode " + wrong, () -> rows.mark(wrong, 255, 255), ARGUMENT);
         }
@@ -513,35 +473,35 @@ public final class PromiseTest {
             Check.refused("12: shape " + wrong, () -> rows.mark(0, wrong, 255), ARGUMENT);
             Check.refused("12: opacity " + wrong, () -> rows.mark(0, 255, wrong), ARGUMENT);
         }
-        Check.due("12: refused ones change nothing", colourAt(rows, 1, 1), "126 79 56");
-        Check.due("12: refused ones change nothing", toldAll(rows), "2 2 1 6 0 5");
+        Check.due("12: refused ones change nothing", Look.colourAt(rows, 1, 1), "126 79 56");
+        Check.due("12: refused ones change nothing", Look.toldAll(rows), "2 2 1 6 0 5");
     }
 
     private static void promise12MarkOfColoursTogether() {
-        BlendRows rows = grey(100);
-        paint(rows, 200, 0, 0);
+        BlendRows rows = Look.grey(100);
+        Look.paint(rows, 200, 0, 0);
         rows.mark(14, 255, 255);
-        Check.due("12: mode 14", colourAt(rows, 0, 0), "240 40 40");
+        Check.due("12: mode 14", Look.colourAt(rows, 0, 0), "240 40 40");
         rows.mark(12, 255, 255);
         // SETSAT(200 0 0, 200) is itself, LUM(240 40 40) = 100
-        Check.due("12: mode 12", colourAt(rows, 0, 0), "240 40 40");
-        paint(rows, 9, 9, 9);
+        Check.due("12: mode 12", Look.colourAt(rows, 0, 0), "240 40 40");
+        Look.paint(rows, 9, 9, 9);
         rows.mark(13, 255, 255);
-        Check.due("12: mode 13 takes all saturation", colourAt(rows, 0, 0), "100 100 100");
+        Check.due("12: mode 13 takes all saturation", Look.colourAt(rows, 0, 0), "100 100 100");
         rows.mark(15, 255, 255);
-        Check.due("12: mode 15", colourAt(rows, 0, 0), "9 9 9");
+        Check.due("12: mode 15", Look.colourAt(rows, 0, 0), "9 9 9");
     }
 
     private static void promise13Point() {
         BlendRows rows = new BlendRows(3, 2);
         rows.fill(0, 0, 2, 1, 0);
         rows.cover(2, 0, 255);
-        paint(rows, 1, 2, 3);
+        Look.paint(rows, 1, 2, 3);
         rows.mark(0, 255, 255);
-        Check.due("13: there", colourAt(rows, 2, 0), "1 2 3");
-        Check.due("13: not there", colourAt(rows, 0, 1), "0 0 0");
+        Check.due("13: there", Look.colourAt(rows, 2, 0), "1 2 3");
+        Check.due("13: not there", Look.colourAt(rows, 0, 1), "0 0 0");
         rows.group(true, false);
-        Check.due("13: of the group that is there", colourAt(rows, 2, 0), "0 0 0");
+        Check.due("13: of the group that is there", Look.colourAt(rows, 2, 0), "0 0 0");
         noPoint("13", (x, y, band) -> rows.point(x, y, band));
         noBand("13", (x, y, band) -> rows.point(x, y, band));
     }
@@ -568,13 +528,13 @@ public final class PromiseTest {
         BlendRows rows = new BlendRows(3, 2);
         rows.mark(0, 200, 128);
         // MUL(200, 128) = 25727 / 255
-        Check.due("14: G, F, A", alphasAt(rows, 1, 1), "100 200 100");
+        Check.due("14: G, F, A", Look.alphasAt(rows, 1, 1), "100 200 100");
         rows.group(false, false);
         rows.mark(0, 100, 255);
         // A = 100 + 100 - MUL(100, 100)
-        Check.due("14: with a backdrop", alphasAt(rows, 1, 1), "100 100 161");
+        Check.due("14: with a backdrop", Look.alphasAt(rows, 1, 1), "100 100 161");
         rows.mark(0, 255, 0);
-        Check.due("14: shape alone", alphasAt(rows, 1, 1), "100 255 161");
+        Check.due("14: shape alone", Look.alphasAt(rows, 1, 1), "100 255 161");
         rows.cover(1, 1, 77);
         Check.due("14: mask and cover", rows.alpha(1, 1, 3) + " " + rows.alpha(1, 1, 4), "255 77");
         noPoint("14", (x, y, what) -> rows.alpha(x, y, what));
@@ -586,7 +546,7 @@ public final class PromiseTest {
 
     private static void promise15Paper() {
         BlendRows rows = new BlendRows(3, 2);
-        paint(rows, 200, 100, 0);
+        Look.paint(rows, 200, 100, 0);
         rows.mark(0, 255, 128);
         // MUL(200, 128) = 100, MUL(100, 128) = 50, and 127 of the paper
         Check.due("15: paper", rows.paper(2, 1, 0) + " " + rows.paper(2, 1, 1) + " " + rows.paper(2, 1, 2), "227 177 127");
@@ -627,31 +587,27 @@ public final class PromiseTest {
         }
     }
 
-    private static int packed(int r, int g, int b) {
-        return r + 256 * g + 65536 * b;
-    }
-
     private static void promise17Blend() {
         BlendRows rows = new BlendRows(1, 1);
-        Check.due("17: bytes", rows.blend(1, packed(100, 255, 0), packed(200, 7, 9)), packed(78, 7, 0));
+        Check.due("17: bytes", rows.blend(1, Look.packed(100, 255, 0), Look.packed(200, 7, 9)), Look.packed(78, 7, 0));
         Check.due("17: bytes", rows.blend(0, 0, 16777215), 16777215);
-        int dull = packed(100, 150, 200);
-        int red = packed(255, 0, 0);
+        int dull = Look.packed(100, 150, 200);
+        int red = Look.packed(255, 0, 0);
         // LUM(100 150 200) = 140, SAT 100: SETSAT(red) = 100 0 0, LUM 30, and 110 are added.
-        Check.due("17: hue", rows.blend(12, dull, red), packed(210, 110, 110));
+        Check.due("17: hue", rows.blend(12, dull, red), Look.packed(210, 110, 110));
         // SETSAT(dull, 255) = 0 127 255, LUM 102, 38 are added: 293 above 255, L = 140:
         // 140 + -102 * 115 / 153 = 63, 140 + 25 * 115 / 153 = 158
-        Check.due("17: saturation", rows.blend(13, dull, red), packed(63, 158, 255));
+        Check.due("17: saturation", rows.blend(13, dull, red), Look.packed(63, 158, 255));
         // 64 are added to red (LUM 76): 319 64 64, L = 140: 140 + -76 * 115 / 179 = 91
-        Check.due("17: colour", rows.blend(14, dull, red), packed(255, 91, 91));
+        Check.due("17: colour", rows.blend(14, dull, red), Look.packed(255, 91, 91));
         // -64 are added: 36 86 136
-        Check.due("17: lightness", rows.blend(15, dull, red), packed(36, 86, 136));
+        Check.due("17: lightness", rows.blend(15, dull, red), Look.packed(36, 86, 136));
         // LUM(0 0 255) = 28, 20 less: -20 -20 235, L = 8: 8 + -28 * 8 / 28 = 0, 8 + 227 * 8 / 28 = 72
-        Check.due("17: below 0", rows.blend(14, packed(8, 8, 8), packed(0, 0, 255)), packed(0, 0, 72));
+        Check.due("17: below 0", rows.blend(14, Look.packed(8, 8, 8), Look.packed(0, 0, 255)), Look.packed(0, 0, 72));
         // LUM(9 0 0) = 2, one less: 8 -1 -1, L = 1: 1 + 7 / 2 = 4
-        Check.due("17: below 0", rows.blend(14, packed(1, 1, 1), packed(9, 0, 0)), packed(4, 0, 0));
-        Check.due("17: a grey has no hue", rows.blend(12, dull, packed(9, 9, 9)), packed(140, 140, 140));
-        Check.due("17: a grey has no saturation", rows.blend(13, packed(9, 9, 9), red), packed(9, 9, 9));
+        Check.due("17: below 0", rows.blend(14, Look.packed(1, 1, 1), Look.packed(9, 0, 0)), Look.packed(4, 0, 0));
+        Check.due("17: a grey has no hue", rows.blend(12, dull, Look.packed(9, 9, 9)), Look.packed(140, 140, 140));
+        Check.due("17: a grey has no saturation", rows.blend(13, Look.packed(9, 9, 9), red), Look.packed(9, 9, 9));
         for (int wrong : new int[] {-1, 16, Integer.MIN_VALUE, Integer.MAX_VALUE}) {
             Check.refused("17: mode " + wrong, () -> rows.blend(wrong, 0, 0), ARGUMENT);
         }
