@@ -21,6 +21,7 @@ public final class BoundaryTermsTest {
         satOfGreys();
         setSatScales();
         setLumStaysWithin();
+        setLumOfNegativeBands();
         setLumBelowZero();
         setLumAboveAll();
         newGroupIsEmpty();
@@ -348,6 +349,18 @@ public final class BoundaryTermsTest {
         blend(14, Look.packed(195), Look.packed(100, 150, 200), Look.packed(155, 205, 255));
         blend(14, Look.packed(41), Look.packed(100, 150, 200), Look.packed(1, 51, 101));
         blend(14, Look.packed(194), Look.packed(100, 150, 200), Look.packed(154, 204, 254));
+    }
+
+    private static void setLumOfNegativeBands() {
+        Check.sentence("L being the LUM of that (whose quotient may be of a negative number: downward too)");
+        // LUM(9 0 0) = 2.7 downward: 7 -2 -2 has 210 - 118 - 22 = 70, L = 0, and all of it becomes 0.
+        blend(14, 0, Look.packed(9, 0, 0), 0);
+        // LUM(0 1 9) = 1.58: -1 0 8 has -30 + 88 = 58, L = 0
+        blend(14, 0, Look.packed(0, 1, 9), 0);
+        // 8 -1 -1 has 170, L = 1: 1 + 7 / 2 = 4, 1 - 2 / 2 = 0
+        blend(14, Look.packed(1), Look.packed(9, 0, 0), Look.packed(4, 0, 0));
+        // LUM(0 0 9) = 0.99: nothing is added, and nothing is below 0.
+        blend(14, 0, Look.packed(0, 0, 9), Look.packed(0, 0, 9));
     }
 
     private static void setLumBelowZero() {
