@@ -325,6 +325,7 @@ public final class BoundaryTermsTest {
         // SETSAT(0 2 3, 1) = 0 0 1: 2 / 3 downward too
         blend(13, Look.packed(0, 2, 3), Look.packed(1, 0, 0), Look.packed(1, 1, 2));
         // Whichever band is the least, or the greatest: SETSAT makes 0, 45 and 60 of 30, 90 and 110.
+        // (41 86 101 by hand: 0 45 60 has LUM 33, b has 74; the other five likewise, by a script.)
         int sixty = Look.packed(250, 200, 190);
         blend(13, Look.packed(30, 90, 110), sixty, Look.packed(41, 86, 101));
         blend(13, Look.packed(30, 110, 90), sixty, Look.packed(43, 103, 88));
