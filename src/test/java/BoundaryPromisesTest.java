@@ -45,12 +45,12 @@ public final class BoundaryPromisesTest {
     }
 
     private static void promise1Sizes() {
-        Check.sentence("1: A page of 1 .. 12 by 1 .. 12 points");
+        Check.promise(1, "A page of 1 .. 12 by 1 .. 12 points");
         for (int side = 1; side <= 12; side++) {
             Check.due("width " + side, size(side, 5), side + " by 5");
             Check.due("height " + side, size(5, side), "5 by " + side);
         }
-        Check.sentence("1: what is less counts as 1");
+        Check.promise(1, "what is less counts as 1");
         for (int side : new int[] {0, -1, -12, LEAST}) {
             Check.due("width " + side, size(side, 5), "1 by 5");
             Check.due("height " + side, size(5, side), "5 by 1");
@@ -60,7 +60,7 @@ public final class BoundaryPromisesTest {
         Check.due("its only point", least.mark(0, 255, 255), 1);
         Check.refused("no second column", () -> least.point(1, 0, 0), INDEX);
         Check.refused("no second row", () -> least.point(0, 1, 0), INDEX);
-        Check.sentence("1: what is more as 12");
+        Check.promise(1, "what is more as 12");
         for (int side : new int[] {13, 144, 65537, MOST}) {
             Check.due("width " + side, size(side, 5), "12 by 5");
             Check.due("height " + side, size(5, side), "5 by 12");
@@ -74,7 +74,7 @@ public final class BoundaryPromisesTest {
     }
 
     private static void promise1Empty() {
-        Check.sentence("1: colour 0, alpha 0 everywhere.");
+        Check.promise(1, "colour 0, alpha 0 everywhere.");
         BlendRows rows = new BlendRows(12, 2);
         for (int x = 0; x < 12; x++) {
             for (int y = 0; y < 2; y++) {
@@ -82,7 +82,7 @@ public final class BoundaryPromisesTest {
                 Check.due("alphas", Look.alphasAt(rows, x, y), "0 0 0");
             }
         }
-        Check.sentence("1: Colour 0 is set, the cover is 255 everywhere, no mask, no inks stay, the bound is 6.");
+        Check.promise(1, "Colour 0 is set, the cover is 255 everywhere, no mask, no inks stay, the bound is 6.");
         BlendRows fresh = new BlendRows(2, 3);
         Check.due("cover", Look.covers(fresh), "255 255 / 255 255 / 255 255 / ");
         Check.due("mask", Look.masks(fresh), "255 255 / 255 255 / 255 255 / ");
@@ -95,12 +95,12 @@ public final class BoundaryPromisesTest {
     }
 
     private static void promise2Told() {
-        Check.sentence("2: IllegalArgumentException for another what.");
+        Check.promise(2, "IllegalArgumentException for another what.");
         BlendRows rows = new BlendRows(2, 3);
         for (int what : new int[] {-1, 6, 7, 256, LEAST, MOST}) {
             Check.refused("told(" + what + ")", () -> rows.told(what), ARGUMENT);
         }
-        Check.sentence("2: whether there is a mask (4: 1, or 0)");
+        Check.promise(2, "whether there is a mask (4: 1, or 0)");
         Check.due("none", rows.told(4), 0);
         rows.group(true, false);
         Check.due("none yet", rows.told(4), 0);
@@ -114,7 +114,7 @@ public final class BoundaryPromisesTest {
     }
 
     private static void promise2Counts() {
-        Check.sentence("2: how many marks were made and groups ended by end() (5; flat ones are not counted)");
+        Check.promise(2, "how many marks were made and groups ended by end() (5; flat ones are not counted)");
         BlendRows rows = new BlendRows(1, 1);
         Check.due("none", rows.told(5), 0);
         rows.mark(0, 0, 0);
@@ -143,7 +143,7 @@ public final class BoundaryPromisesTest {
     }
 
     private static void promise3Bound() {
-        Check.sentence("3: The bound is 1 .. 6 from now on .. IllegalArgumentException.");
+        Check.promise(3, "The bound is 1 .. 6 from now on [..] IllegalArgumentException.");
         BlendRows rows = new BlendRows(1, 1);
         for (int most : new int[] {1, 6, 2, 5, 3, 4}) {
             rows.bound(most);
@@ -156,7 +156,7 @@ public final class BoundaryPromisesTest {
     }
 
     private static void promise3GroupsStay() {
-        Check.sentence("3: (groups that are there stay)");
+        Check.promise(3, "(groups that are there stay)");
         BlendRows rows = new BlendRows(1, 1);
         Look.paint(rows, 50);
         for (int depth = 2; depth <= 6; depth++) {
@@ -186,7 +186,7 @@ public final class BoundaryPromisesTest {
     }
 
     private static void promise4Group() {
-        Check.sentence("4: A new group: the depth then.");
+        Check.promise(4, "A new group: the depth then.");
         BlendRows rows = new BlendRows(1, 1);
         Check.due("the first", rows.group(false, false), 2);
         Check.due("the second", rows.group(true, true), 3);
@@ -195,7 +195,7 @@ public final class BoundaryPromisesTest {
     }
 
     private static void promise4DeepestGroup() {
-        Check.sentence("4: UnsupportedOperationException when it is 40.");
+        Check.promise(4, "UnsupportedOperationException when it is 40.");
         for (int bound = 1; bound <= 6; bound += 5) {
             BlendRows rows = new BlendRows(1, 1);
             rows.bound(bound);
@@ -216,7 +216,7 @@ public final class BoundaryPromisesTest {
     }
 
     private static void promise5End() {
-        Check.sentence("5: The group ends, by a mode and opacity: the depth then.");
+        Check.promise(5, "The group ends, by a mode and opacity: the depth then.");
         BlendRows rows = Look.grey(200);
         rows.group(true, false);
         rows.group(true, false);
@@ -239,13 +239,13 @@ public final class BoundaryPromisesTest {
     }
 
     private static void promise5Refuses() {
-        Check.sentence("5: IllegalStateException when only the page is there");
+        Check.promise(5, "IllegalStateException when only the page is there");
         BlendRows page = new BlendRows(1, 1);
         Check.refused("a new object", () -> page.end(0, 0), STATE);
         page.group(true, false);
         page.mask(1, false);
         Check.refused("after a mask", () -> page.end(15, 255), STATE);
-        Check.sentence("5: IllegalArgumentException for another mode than 0 .. 15, or opacity than 0 .. 255.");
+        Check.promise(5, "IllegalArgumentException for another mode than 0 .. 15, or opacity than 0 .. 255.");
         BlendRows rows = new BlendRows(1, 1);
         rows.group(true, false);
         rows.bound(1);
@@ -263,7 +263,7 @@ public final class BoundaryPromisesTest {
     }
 
     private static void promise6Mask() {
-        Check.sentence("6: The group ends as THE MASK (in place of another one), and is put nowhere");
+        Check.promise(6, "The group ends as THE MASK (in place of another one), and is put nowhere");
         BlendRows rows = new BlendRows(2, 1);
         rows.group(true, false);
         rows.mark(0, 255, 255);
@@ -279,7 +279,7 @@ public final class BoundaryPromisesTest {
         Check.due("in a group", rows.mask(1, true), 2);
         Check.due("in place of another one again", Look.masks(rows), "255 255 / ");
 
-        Check.sentence("6: kind 1: its G; .. turned: 255 less that.");
+        Check.promise(6, "kind 1: its G; [..] turned: 255 less that.");
         for (int g : new int[] {0, 1, 128, 255}) {
             Check.due("G " + g, Look.masked(g).alpha(0, 0, 3), g);
             BlendRows turned = new BlendRows(1, 1);
@@ -294,7 +294,7 @@ public final class BoundaryPromisesTest {
         backed.mask(1, false);
         Check.due("G, not A", backed.alpha(0, 0, 3), 100);
 
-        Check.sentence("6: 2: the LUM of its result's colour, each band c being MUL(c, G) before");
+        Check.promise(6, "2: the LUM of its result's colour, each band c being MUL(c, G) before");
         // MUL by 1 is 1 from 128 on: 1 1 0 has LUM 0, 1 1 1 has 1.
         int[][] lums = {{255, 255, 255, 255, 255}, {0, 0, 0, 255, 0}, {255, 255, 255, 0, 0},
             {128, 128, 127, 1, 0}, {128, 128, 128, 1, 1},
@@ -320,7 +320,7 @@ public final class BoundaryPromisesTest {
     }
 
     private static void promise6OfAFlatGroup() {
-        Check.sentence("6: Of a flat group: nothing else. The depth then.");
+        Check.promise(6, "Of a flat group: nothing else. The depth then.");
         BlendRows rows = new BlendRows(1, 1);
         rows.bound(1);
         rows.group(true, false);
@@ -335,7 +335,7 @@ public final class BoundaryPromisesTest {
     }
 
     private static void promise6Refuses() {
-        Check.sentence("6: IllegalStateException; IllegalArgumentException for another kind.");
+        Check.promise(6, "IllegalStateException; IllegalArgumentException for another kind.");
         BlendRows page = new BlendRows(1, 1);
         Check.refused("only the page, kind 1", () -> page.mask(1, false), STATE);
         Check.refused("only the page, kind 2", () -> page.mask(2, true), STATE);
@@ -352,7 +352,7 @@ public final class BoundaryPromisesTest {
     }
 
     private static void promise7Unmask() {
-        Check.sentence("7: There is no mask any more.");
+        Check.promise(7, "There is no mask any more.");
         BlendRows rows = Look.masked(0);
         Check.due("nothing is left", rows.mark(0, 255, 255), 0);
         rows.unmask();
@@ -372,7 +372,7 @@ public final class BoundaryPromisesTest {
     }
 
     private static void promise8Colour() {
-        Check.sentence("8: A band of the colour that is set.");
+        Check.promise(8, "A band of the colour that is set.");
         BlendRows rows = new BlendRows(1, 1);
         Look.paint(rows, 255);
         rows.colour(0, 0);
@@ -381,7 +381,7 @@ public final class BoundaryPromisesTest {
         rows.colour(2, 0);
         rows.mark(0, 255, 255);
         Check.due("band 2", Look.colourAt(rows, 0, 0), "0 255 0");
-        Check.sentence("8: IllegalArgumentException when v is no byte; ArrayIndexOutOfBoundsException.");
+        Check.promise(8, "IllegalArgumentException when v is no byte; ArrayIndexOutOfBoundsException.");
         for (int v : NO_BYTES) {
             Check.refused("v " + v, () -> rows.colour(1, v), ARGUMENT);
         }
@@ -393,7 +393,7 @@ public final class BoundaryPromisesTest {
     }
 
     private static void promise9Stays() {
-        Check.sentence("9: An ink STAYS, or not.");
+        Check.promise(9, "An ink STAYS, or not.");
         for (int band = 0; band < 3; band++) {
             BlendRows rows = Look.grey(100);
             Look.paint(rows, 50);
@@ -409,7 +409,7 @@ public final class BoundaryPromisesTest {
             rows.mark(0, 255, 255);
             Check.due("no more", Look.colourAt(rows, 0, 0), "50 50 50");
         }
-        Check.sentence("9: ArrayIndexOutOfBoundsException.");
+        Check.promise(9, "ArrayIndexOutOfBoundsException.");
         BlendRows rows = Look.grey(100);
         for (int band : new int[] {-1, 3, 32, 33, 34, -32, LEAST, MOST}) {
             Check.refused("band " + band, () -> rows.stays(band, true), INDEX);
@@ -421,7 +421,7 @@ public final class BoundaryPromisesTest {
     }
 
     private static void promise10Cover() {
-        Check.sentence("10: The cover of a point.");
+        Check.promise(10, "The cover of a point.");
         BlendRows rows = new BlendRows(3, 2);
         rows.cover(0, 0, 0);
         rows.cover(2, 1, 1);
@@ -430,7 +430,7 @@ public final class BoundaryPromisesTest {
         Check.due("the corners", Look.covers(rows), "0 255 254 / 255 255 1 / ");
         rows.group(true, false);
         Check.due("a group has no cover of its own", Look.covers(rows), "0 255 254 / 255 255 1 / ");
-        Check.sentence("10: IllegalArgumentException when v is no byte; ArrayIndexOutOfBoundsException.");
+        Check.promise(10, "IllegalArgumentException when v is no byte; ArrayIndexOutOfBoundsException.");
         for (int v : NO_BYTES) {
             Check.refused("v " + v, () -> rows.cover(0, 0, v), ARGUMENT);
         }
@@ -449,7 +449,7 @@ public final class BoundaryPromisesTest {
     }
 
     private static void promise11Fill() {
-        Check.sentence("11: The cover of all points from (x, y) to (x2, y2) that the page has.");
+        Check.promise(11, "The cover of all points from (x, y) to (x2, y2) that the page has.");
         String none = "0000/0000/0000/";
         String all = "1111/1111/1111/";
         Check.due("one point", filled(1, 1, 1, 1), "0000/0100/0000/");
@@ -472,7 +472,7 @@ public final class BoundaryPromisesTest {
         Check.due("x2 before x", filled(2, 0, 1, 2), none);
         Check.due("y2 before y", filled(0, 2, 3, 1), none);
         Check.due("both far before", filled(MOST, MOST, LEAST, LEAST), none);
-        Check.sentence("11: IllegalArgumentException when v is no byte.");
+        Check.promise(11, "IllegalArgumentException when v is no byte.");
         BlendRows rows = new BlendRows(2, 1);
         rows.fill(0, 0, 0, 0, 0);
         Check.due("the bytes' edges", Look.covers(rows), "0 255 / ");
@@ -484,7 +484,7 @@ public final class BoundaryPromisesTest {
     }
 
     private static void promise12Mark() {
-        Check.sentence("12: A MARK: at how many points its alpha is above 0.");
+        Check.promise(12, "A MARK: at how many points its alpha is above 0.");
         BlendRows rows = new BlendRows(3, 1);
         Check.due("all", rows.mark(0, 255, 255), 3);
         Check.due("the least alpha", rows.mark(0, 1, 255), 3);
@@ -507,7 +507,7 @@ public final class BoundaryPromisesTest {
     }
 
     private static void promise12Refuses() {
-        Check.sentence("12: IllegalArgumentException for another mode than 0 .. 15, or what is no byte.");
+        Check.promise(12, "IllegalArgumentException for another mode than 0 .. 15, or what is no byte.");
         BlendRows rows = Look.grey(100);
         Look.paint(rows, 50);
         for (int mode : NO_MODES) {
@@ -546,7 +546,7 @@ public final class BoundaryPromisesTest {
     }
 
     private static void promise13Point() {
-        Check.sentence("13: A band of the colour of the group that is there, at a point.");
+        Check.promise(13, "A band of the colour of the group that is there, at a point.");
         BlendRows rows = new BlendRows(3, 2);
         Look.paint(rows, 1, 2, 3);
         rows.fill(0, 0, 2, 1, 0);
@@ -560,13 +560,13 @@ public final class BoundaryPromisesTest {
         Check.due("of the group", Look.colourAt(rows, 2, 0), "0 0 0");
         rows.end(0, 255);
         Check.due("of the page again", Look.colourAt(rows, 2, 0), "1 2 3");
-        Check.sentence("13: ArrayIndexOutOfBoundsException.");
+        Check.promise(13, "ArrayIndexOutOfBoundsException.");
         noPoints((x, y, band) -> rows.point(x, y, band));
         noBands((x, y, band) -> rows.point(x, y, band));
     }
 
     private static void promise14Alpha() {
-        Check.sentence("14: G (what = 0), F (1), A (2); the mask's byte (3; 255 without one), the cover (4).");
+        Check.promise(14, "G (what = 0), F (1), A (2); the mask's byte (3; 255 without one), the cover (4).");
         BlendRows rows = new BlendRows(3, 2);
         rows.mark(0, 100, 255);
         rows.group(false, false);
@@ -580,7 +580,7 @@ public final class BoundaryPromisesTest {
         rows.mark(0, 255, 9);
         rows.mask(1, false);
         Check.due("with a mask", rows.alpha(0, 0, 3) + " " + rows.alpha(2, 1, 3), "9 0");
-        Check.sentence("14: ArrayIndexOutOfBoundsException; IllegalArgumentException for another what.");
+        Check.promise(14, "ArrayIndexOutOfBoundsException; IllegalArgumentException for another what.");
         noPoints((x, y, what) -> rows.alpha(x, y, what));
         for (int what : new int[] {-1, 5, 6, 256, LEAST, MOST}) {
             Check.refused("what " + what, () -> rows.alpha(2, 1, what), ARGUMENT);
@@ -588,7 +588,7 @@ public final class BoundaryPromisesTest {
     }
 
     private static void promise15Paper() {
-        Check.sentence("15: A band as white paper shows it through the group that is there: MUL(c, A) + 255 - A.");
+        Check.promise(15, "A band as white paper shows it through the group that is there: MUL(c, A) + 255 - A.");
         int[][] papers = {{0, 0, 255}, {0, 255, 0}, {255, 0, 255}, {255, 255, 255}, {127, 1, 254}, {128, 1, 255},
             {0, 1, 254}, {100, 128, 177}};
         for (int[] one : papers) {
@@ -601,14 +601,14 @@ public final class BoundaryPromisesTest {
             rows.group(true, false);
             Check.due("an empty group", rows.paper(0, 0, 2), 255);
         }
-        Check.sentence("15: ArrayIndexOutOfBoundsException.");
+        Check.promise(15, "ArrayIndexOutOfBoundsException.");
         BlendRows rows = new BlendRows(3, 2);
         noPoints((x, y, band) -> rows.paper(x, y, band));
         noBands((x, y, band) -> rows.paper(x, y, band));
     }
 
     private static void promise16Separable() {
-        Check.sentence("16: BLEND of bytes, modes 0 .. 11.");
+        Check.promise(16, "BLEND of bytes, modes 0 .. 11.");
         int[] at255 = {255, 0, 255, 0, 0, 255, 0, 0, 255, 0, 255, 255};
         int[] on255 = {0, 0, 255, 255, 0, 255, 255, 255, 0, 255, 255, 255};
         BlendRows rows = new BlendRows(1, 1);
@@ -616,7 +616,7 @@ public final class BoundaryPromisesTest {
             Check.due("mode " + mode + " of 0 and 255", rows.separable(mode, 0, 255), at255[mode]);
             Check.due("mode " + mode + " of 255 and 0", rows.separable(mode, 255, 0), on255[mode]);
         }
-        Check.sentence("16: IllegalArgumentException for another mode, or what is no byte.");
+        Check.promise(16, "IllegalArgumentException for another mode, or what is no byte.");
         for (int mode : new int[] {-1, 12, 13, 14, 15, 16, 256, LEAST, MOST}) {
             Check.refused("mode " + mode, () -> rows.separable(mode, 0, 0), ARGUMENT);
         }
@@ -628,7 +628,7 @@ public final class BoundaryPromisesTest {
     }
 
     private static void promise17Blend() {
-        Check.sentence("17: BLEND of colours (the first band as the lowest byte), any mode: the colour, likewise.");
+        Check.promise(17, "BLEND of colours (the first band as the lowest byte), any mode: the colour, likewise.");
         BlendRows rows = new BlendRows(1, 1);
         for (int mode = 0; mode <= 15; mode++) {
             int white = mode == 10 || mode == 11 ? 0 : 16777215;
@@ -644,7 +644,7 @@ public final class BoundaryPromisesTest {
         // LUM is 30 of the lowest byte, 11 of the highest one.
         Check.due("mode 15 by the lowest byte", rows.blend(15, 0, 0x0000ff), Look.packed(76));
         Check.due("mode 15 by the highest byte", rows.blend(15, 0, 0xff0000), Look.packed(28));
-        Check.sentence("17: IllegalArgumentException for another mode, or what is below 0, or above 16777215.");
+        Check.promise(17, "IllegalArgumentException for another mode, or what is below 0, or above 16777215.");
         for (int mode : NO_MODES) {
             Check.refused("mode " + mode, () -> rows.blend(mode, 0, 0), ARGUMENT);
         }

@@ -152,8 +152,8 @@ public final class BoundaryTermsTest {
     }
 
     private static void plainModes() {
-        Check.sentence("0 s. 1 MUL(b, s). 2 b + s - MUL(b, s). .. 4 the lesser, 5 the greater one. .. 10 the greater"
-                + " less the lesser.");
+        Check.sentence("0 s. 1 MUL(b, s). 2 b + s - MUL(b, s). [..] 4 the lesser, 5 the greater one. [..] 10 the"
+                + " greater less the lesser.");
         for (int[] pair : new int[][] {{0, 0}, {0, 255}, {255, 0}, {255, 255}, {254, 255}, {1, 0}}) {
             int b = pair[0];
             int s = pair[1];
@@ -248,7 +248,8 @@ public final class BoundaryTermsTest {
     }
 
     private static void mode9Softens() {
-        Check.sentence("9: for s <= 127 b - ((255 - 2 s) MUL(b, 255 - b) + 127) / 255; otherwise ..");
+        Check.sentence("9: for s <= 127 b - ((255 - 2 s) MUL(b, 255 - b) + 127) / 255; otherwise b + ((2 s - 255) (D - b) +"
+                + " 127) / 255");
         // MUL(100, 155) = 61: less (61 + 127) / 255 = 0 at 127, (3 * 61 + 127) / 255 = 1 at 126, 61 at 0
         separable(9, 100, 127, 100);
         separable(9, 100, 126, 99);
@@ -533,7 +534,7 @@ public final class BoundaryTermsTest {
     }
 
     private static void putOnNothing() {
-        Check.sentence("each band, where the new A is above 0: ..; otherwise it stays.");
+        Check.sentence("each band, where the new A is above 0: [..]; otherwise it stays.");
         BlendRows rows = new BlendRows(1, 1);
         rows.group(true, true);
         Look.paint(rows, 200, 10, 5);
@@ -552,7 +553,7 @@ public final class BoundaryTermsTest {
     }
 
     private static void putIsAByteAtMost() {
-        Check.sentence("(..) / (255 A), 255 at most");
+        Check.sentence("/ (255 A), 255 at most");
         BlendRows rows = new BlendRows(1, 1);
         Look.paint(rows, 255, 0, 255);
         rows.mark(0, 255, 2);
@@ -560,7 +561,7 @@ public final class BoundaryTermsTest {
         // G = (191 * 2 + 255 * 64 + 127) / 255 = 65.996; 255 * (191 * 2 + 64 * 255) + 8287 = 4267297, / 16575 = 257
         Check.due("257 is 255", Look.colourAt(rows, 0, 0), "255 0 255");
         Check.due("A", Look.alphasAt(rows, 0, 0), "65 255 65");
-        Check.sentence("((255 - f) A' c + (f - a) B b + a (..) + 255 A / 2) / (255 A)");
+        Check.sentence("((255 - f) A' c + (f - a) B b + a ([..]) + 255 A / 2) / (255 A)");
         // On black with a = 1: 255 s + 32512 over 65025 is 1 from s = 128 on (32640 + 32512 = 65152).
         for (int s = 127; s <= 128; s++) {
             BlendRows half = Look.grey(0);
@@ -665,7 +666,7 @@ public final class BoundaryTermsTest {
     }
 
     private static void resultWithoutAlpha() {
-        Check.sentence("for each band where G is above 0: ..; otherwise 0.");
+        Check.sentence("for each band where G is above 0: [..]; otherwise 0.");
         BlendRows rows = Look.grey(200);
         rows.group(false, true);
         rows.mark(0, 255, 0);
@@ -819,7 +820,7 @@ public final class BoundaryTermsTest {
     }
 
     private static void deeperThanTheBound() {
-        Check.sentence("A group that would be deeper than the BOUND .. is FLAT");
+        Check.sentence("A group that would be deeper than the BOUND, [..] is FLAT");
         for (int bound = 1; bound <= 6; bound++) {
             BlendRows rows = new BlendRows(1, 1);
             rows.bound(bound);
